@@ -1493,7 +1493,6 @@ public final class BiteYears {
         }
 
         private void closeBrackets() {
-            settle(Law.NOT);
             for (int i = 0; i < MOST_DEEP && isSign(')'); i++) {
                 settle(Law.OR);
                 if (waitingSize == 0) {
@@ -1502,7 +1501,6 @@ public final class BiteYears {
                 waitingSize--;
                 deep--;
                 advance();
-                settle(Law.NOT);
             }
         }
 

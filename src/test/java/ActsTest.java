@@ -15,6 +15,7 @@ public final class ActsTest {
         reachAndHouse();
         look();
         evenings();
+        eveningsBySeed();
         log();
         seed();
         undo();
@@ -199,6 +200,19 @@ public final class ActsTest {
         Check.due("how many spoons is drawn all the same", none.seed(1), drawn(3));
     }
 
+    /** Spoons of each evening from a seed, by the document's rule alone. */
+    private static void eveningsBySeed() {
+        boolean[] many = new boolean[5];
+        for (int seed = 1; seed <= 40; seed++) {
+            BiteYears x = Check.with("dish 11111 first 10 at 1", null);
+            x.seed(seed);
+            int due = ((1103515245 * seed + 12345) >>> 16 & 32767) % 4 + 1;
+            Check.due("spoons from seed " + seed, x.evenings(1), due);
+            many[due] = true;
+        }
+        Check.due("all of 1 to 4 came", many[1] && many[2] && many[3] && many[4], true);
+    }
+
     private static int drawn(int draws) {
         int seed = 1;
         for (int i = 0; i < draws; i++) {
@@ -233,6 +247,14 @@ public final class ActsTest {
         Check.due("led", x.led(2, false), 1);
         Check.due("led", x.led(0, false), 0);
         Check.due("the latest evening", x.led(1, true), 1);
+        Check.due("the latest evening of another", x.led(2, true), 1);
+        x.crust();
+        x.crust();
+        x.spoon(2);
+        Check.due("the latest evening by its number", x.led(2, true), 3);
+        x.undo();
+        Check.due("the log is as ahead", x.log(0, 1), 1);
+        Check.due("its rows are as ahead", x.count(15), 3);
         Check.due("no evening", x.led(0, true), -1);
         Check.dueThrow("led of none", INDEX, () -> x.led(3, false));
         Check.dueThrow("led of below", INDEX, () -> x.led(-1, true));
@@ -246,6 +268,14 @@ public final class ActsTest {
         Check.due("60 rows at most", x.count(15), 60);
         Check.due("the first one is gone", x.log(59, 1), 2);
         Check.due("nothing behind", x.log(60, 1), -2);
+        for (int ago = 0; ago < 58; ago++) {
+            Check.due("row " + ago, x.log(ago, 1) * 100000 + x.log(ago, 0) * 10000 + x.log(ago, 3), 30010);
+        }
+        x.spoon(2);
+        x.spoon(2);
+        x.undo();
+        x.undo();
+        Check.due("rows that were gone are there again", x.log(58, 1) * 10 + x.log(59, 1), 12);
         Check.due("led by rows alone", x.led(1, false), 1);
         Check.due("led", x.led(0, false), 58);
     }

@@ -66,6 +66,13 @@ public final class DishesTest {
         dueTurns("grief 1 if day > 600", 0, 0, 0);
         dueTurns("grief 1 if place < 5 ; grief 2 if place > 4", 1, 1, 2);
         dueTurns("grief 1 if company > 8 ; grief 2 if company < 4 and company > 2", 2, 2, 1);
+        dueTurns("grief 1 if company > 8 and company < 10", 0, 0, 1);
+        dueTurns("grief 1 if place > 0 and place < 2", 1, 1, 0);
+        dueTurns("grief 1 if place > 4 and place < 6", 0, 0, 1);
+        dueTurns("grief 1 if not (1 < 2 and not new)", 0, 1, 1);
+        dueTurns("grief 1 if 1 < 2 and not new or 2 < 1 and not new", 1, 0, 0);
+        dueTurns("grief 1 if 2 < 1 or not (new or not war)", 1, 0, 0);
+        dueTurns("grief 1 if day + 999 > 998 and day < 999", 1, 1, 1);
         dueTurns("grief 1 if sorrow > 0", 0, 0, 0);
         dueTurns("grief 1 if sorrow + 1 > 0 + 0", 1, 1, 1);
         dueTurns("grief 1 if spoons < 1", 1, 1, 1);
@@ -156,6 +163,7 @@ public final class DishesTest {
         Check.due("gap of the same day", x.gap(), 0);
         x.had(3, 0, 0, -1);
         Check.due("gap from day 0", x.gap(), 120);
+        Check.due("gap from the first dish", Check.with("dish 11111 first 5 at 0;dish 11111 first 9 at 0", null).gap(), 4);
         Check.due("gap of none", new BiteYears().gap(), 0);
     }
 
@@ -169,6 +177,9 @@ public final class DishesTest {
         Check.due("with nobody", x.lover(), -1);
         x.had(5, 1, 0, 0);
         Check.due("lover 0", x.lover(), 0);
+        x.had(4, 1, 0, 7);
+        x.had(3, 1, 0, 7);
+        Check.due("lover 7", x.lover(), 7);
         BiteYears none = new BiteYears();
         Check.due("lover of none", none.lover(), -1);
         Check.due("oldest of none", none.oldest(), -1);
@@ -203,6 +214,12 @@ public final class DishesTest {
         Check.law(x, "pay 1 if dish < 1;pay 4 if dish > 0");
         Check.due("3 and 6, near: 1 < 4, 3 > 1", x.hosts(0, 1), 8);
         Check.due("3 and 6, far: 1 < 6, 3 = 3", x.hosts(0, 2), 2 | 4 | 8);
+        Check.law(x, "pay 1 if dish < 1;pay 2 if dish > 0");
+        Check.due("3 and 4, near: 1 < 2, 2 > 1", x.hosts(0, 1), 8);
+        x.reach(1);
+        Check.due("3 and 4, near by reach at most", x.hosts(0, 1), 8);
+        x.reach(0);
+        Check.due("3 and 4, not near any more", x.hosts(0, 1), 2 | 4);
         BiteYears poor = Check.with("dish 11111;dish 11111;wage 0", null);
         Check.due("without pay, near", poor.hosts(0, 1), 9);
     }
@@ -233,6 +250,7 @@ public final class DishesTest {
         Check.due("share 0", y.share(0), 0);
         y.forget(5);
         Check.due("share, rounded down", y.share(1), 66);
+        Check.due("share of one alone", Check.with("dish 11111 first 5 at 0", null).share(0), 100);
         Check.dueThrow("share 8", INDEX, () -> y.share(8));
         Check.dueThrow("share -1", INDEX, () -> y.share(-1));
         y.forget(0);

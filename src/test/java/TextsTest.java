@@ -12,6 +12,8 @@ public final class TextsTest {
         rightLaws();
         wrongLaws();
         depthOfLaws();
+        lawsBehindWrongOnes();
+        longTexts();
         Check.finish();
     }
 
@@ -104,14 +106,14 @@ public final class TextsTest {
             "dish 12345 first 1 at 1 at", "dish 12345 with 1", "today", "today 1000", "today -1", "today x", "today 5 5", "war", "war 5", "war 5 too 6", "war 5 to",
             "war 5 to 4", "war 1000 to 1001", "war 5 to 1000", "reach 46", "reach 450", "reach 0046", "slip 101", "house 8", "wage 51", "bite", "Dish 11111",
             "dishes 11111", "slip 1;", "slip 1; ", "slip 1;;slip 1", ";", " ;", "slip 1 slip 1", "slip 1,slip 1", "slip 1.", "5", "\t", "\377", "slip 1 ;\0",
-            "slip\t1", "today to 5", "first 1", "grief 5", "slip 1 ; wage 51", "DISH", "dish 1234a", "dish a2345", "slip 1a", "war 3 to 4 to"};
+            "slip\t1", "today to 5", "first 1", "grief 5", "slip 1 ; wage 51", "DISH", "dishz 11111", "xish 11111", "war 0 to 0", "dish 00000 first 0 at 0 with 0;today 0", "dish 1234a", "dish a2345", "slip 1a", "war 3 to 4 to"};
         int[] due = {4, 5, 6, 5, 5, 11, 11, 5, 9,
             16, 17, 17, 17, 18, 19,
             19, 21, 22, 28, 29,
             24, 11, 5, 6, 6, 6, 8, 3, 5, 6, 8,
             9, 4, 9, 6, 6, 6, 5, 6, 5, 0, 0,
             0, 7, 8, 7, 0, 1, 7, 6, 6, 0, 0, 0, 8,
-            4, 6, 0, 0, 14, 0, 5, 5, 6, 11};
+            4, 6, 0, 0, 14, 0, 0, 0, -1, -1, 5, 5, 6, 11};
         for (int i = 0; i < texts.length; i++) {
             Check.dueLifeFault(new BiteYears(), texts[i], due[i]);
         }
@@ -186,14 +188,14 @@ public final class TextsTest {
             "pay 5 if + day < 5", "pay 5 if 1000 < day", "pay 5 if day < 0001", "pay 5 if new and", "pay 5 if and new", "pay 5 if new or or new", "pay 5 if new new",
             "pay 5 if new not war", "pay 5 if new (war)", "pay 5 if evening < 5", "pay 5 if day < 5 + spoon", "pay 5 if newer", "pay 5 if notnew", "pay 5 5",
             "pay 5 if new;grief 5 if (new and (war or alone)", "pay 5 if 5", "pay 5 if day < ", "dish 12345", "pay 5 if day < 5 new", "pay 5 if ((new))) and war",
-            "\377", "pay 5 if New", "pay 5 if (new and war", "pay 5 if not (new) and )", "pay 5 if today < 5", "joy 1 ; pay 5 if new or", "pay 5 if <"};
+            "\377", "pay 5 if New", "pay 5 if (new and war", "pay 5 if not (new) and )", "pay 5 if today < 5", "joy 1 ; pay 5 if new or", "pay 5 if <", "nay 5", "pay 5 if xew"};
         int[] due = {5, 6, 6, 6, 6, 8, 9, 6, 12, 13,
             13, 13, 12, 0, 5 + 1, 8, 6, 12, 12, 10,
             13, 17, 15, 13, 13, 15, 14,
             9, 9, 15, 16, 9, 16, 13,
             13, 13, 9, 19, 9, 9, 6,
             47, 10, 15, 0, 17, 16,
-            0, 9, 21, 23, 9, 23, 9};
+            0, 9, 21, 23, 9, 23, 9, 0, 9};
         for (int i = 0; i < texts.length; i++) {
             BiteYears x = new BiteYears();
             Check.dueLawFault(x, texts[i], due[i]);
@@ -219,5 +221,41 @@ public final class TextsTest {
         Check.dueLawFault(new BiteYears(), "pay 5 if (((((not new and not war and (alone))))))", -1);
         Check.dueLawFault(new BiteYears(), "pay 5 if (((((not new and not war and ((alone)))))))", 39);
         Check.dueLawFault(new BiteYears(), "pay 5 if not (new) and not (not not not not (1 < 2 or not new))", 44);
+    }
+
+    private static void lawsBehindWrongOnes() {
+        BiteYears x = Check.with("dish 11111", null);
+        for (int i = 0; i < 4; i++) {
+            Check.dueLawFault(x, "pay 5 if not (new or (war and (not alone or (", 45);
+            Check.dueLawFault(x, "grief 3 if not (not (not (war)));grief 4 if (((((new)))));grief 50 if not not not not not not war", -1);
+            Check.due("turns behind a wrong law", x.dish(0, 9), 7);
+        }
+    }
+
+    private static void longTexts() {
+        StringBuilder law = new StringBuilder("pay 1 if 0");
+        while (law.length() + 2 <= 398) {
+            law.append("+1");
+        }
+        law.append("<2");
+        BiteYears x = Check.with("dish 11111", null);
+        Check.due("a text of 400 bytes", law.length(), 400);
+        Check.dueLawFault(x, law.toString(), -1);
+        Check.due("its sum is 194", x.dish(0, 10), 1);
+        Check.dueLawFault(x, law.toString().replace("<2", ">2"), -1);
+        Check.due("its sum is more than 2", x.dish(0, 10), 2);
+        Check.dueLawFault(x, law.substring(0, 399), 399);
+        Check.dueLawFault(x, law.substring(0, 398), 398);
+        Check.dueLifeFault(x, " ".repeat(400), -1);
+        Check.dueLifeFault(x, " ".repeat(399) + "x", 399);
+        Check.dueLifeFault(x, " ".repeat(394) + "slip 9", -1);
+        Check.due("slip at the end", x.count(11), 9);
+        Check.dueLawFault(x, "pay 1 if " + "new or ".repeat(55) + "new", -1);
+        Check.due("many ors", x.dish(0, 10), 2);
+        Check.dueLawFault(x, "pay 1 if war or new and (war or new and (war or new and (war or new and (war or new and (war or new and (war or new and not war))))))", 120);
+        Check.dueLawFault(x, "pay 1 if war or new and (war or new and (war or new and (war or new and (war or new and (war or new and (war or new and 1<2))))))", -1);
+        Check.due("six brackets with all that waits", x.dish(0, 10), 2);
+        Check.dueLawFault(x, "pay 1 if war or new and (war or new and (war or new and (war or new and (war or new and (war or new and (war or new and 1>2))))))", -1);
+        Check.due("six brackets in vain", x.dish(0, 10), 1);
     }
 }

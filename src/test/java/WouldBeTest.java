@@ -84,6 +84,8 @@ public final class WouldBeTest {
         Check.due("of several the least", x.fewest(2, 0), 2);
         Check.due("ages 0, 1, 9", x.fewest(1 | 2 | 512, 4), 8 | 2 | 16);
         Check.due("ages 2", x.fewest(4, 2), 32);
+        Check.due("all must", x.fewest(1023, 0), -1);
+        Check.due("the first dish", Check.with("dish 11111 first 999 at 0", null).fewest(512, 511), 1);
         Check.due("an age not had", x.fewest(8, 0), -1);
         Check.due("must and must not", x.fewest(6, 4), -1);
         Check.due("must not that is not had", x.fewest(2, 8), 2);
@@ -96,6 +98,10 @@ public final class WouldBeTest {
         x.had(0, 1000, 0, -1);
         x.forget(3);
         Check.due("age 10 counts for nothing", x.fewest(1, 0), -1);
+        BiteYears all = Check.with("dish 11111 first 0 at 0;dish 11111 first 100 at 0;dish 11111 first 299 at 0;dish 11111 first 399 at 0;dish 11111 first 400 at 0;"
+            + "dish 11111 first 500 at 0;dish 11111 first 699 at 0;dish 11111 first 700 at 0;dish 11111 first 800 at 0;dish 11111 first 900 at 0", null);
+        Check.due("all must and are had", all.fewest(1023, 0), 1023);
+        Check.due("age 1 ends at 199", Check.with("dish 11111 first 200 at 0", null).fewest(2, 0), -1);
     }
 
     private static void dueOrder(BiteYears x, String name, int set, int greatest, int... row) {
@@ -165,6 +171,7 @@ public final class WouldBeTest {
         Check.dueThrow("three bytes", ARGUMENT, () -> he(x, 1, 1, 1));
         Check.due("forty bytes", he(x, new int[40]), 1);
         Check.dueThrow("42 bytes", ARGUMENT, () -> he(x, new int[42]));
+        Check.dueThrow("41 bytes", ARGUMENT, () -> he(x, new int[41]));
         Check.due("without dishes", he(new BiteYears(), 0, 0), 0);
     }
 
@@ -344,6 +351,7 @@ public final class WouldBeTest {
         Check.due("the least", x.span(7, false), least);
         Check.due("the greatest", x.span(7, true), greatest);
         Check.due("they differ", least < greatest, true);
+        spanBySeeds();
         Check.due("nothing stays: seed", x.seed(1), 6);
         Check.due("nothing stays: log", x.count(15), 1);
         Check.due("nothing stays: acts", x.count(16), 1);
@@ -355,5 +363,28 @@ public final class WouldBeTest {
         Check.dueThrow("trial -1", ARGUMENT, () -> x.trial(-1, false));
         Check.dueThrow("span 61", ARGUMENT, () -> x.span(61, true));
         Check.dueThrow("span -1", ARGUMENT, () -> x.span(-1, false));
+    }
+
+    /** The least and the greatest come from each of the seeds 1 to 6 in turn, and from no other one. */
+    private static void spanBySeeds() {
+        boolean[] leasts = new boolean[7];
+        boolean[] greatests = new boolean[7];
+        for (int n = 1; n <= 60; n++) {
+            BiteYears x = Check.with("dish 11111 first 10 at 1;dish 22222 first 20 at 1;dish 99999;wage 1", "pay 40 if dish > 0;pay 19 if dish > 1");
+            int[] paid = new int[7];
+            int least = 1;
+            int greatest = 1;
+            for (int seed = 1; seed <= 6; seed++) {
+                x.seed(seed);
+                paid[seed] = x.trial(n, true);
+                least = paid[seed] < paid[least] ? seed : least;
+                greatest = paid[seed] > paid[greatest] ? seed : greatest;
+            }
+            leasts[least] = true;
+            greatests[greatest] = true;
+            Check.due("the least of " + n, x.span(n, false), paid[least]);
+            Check.due("the greatest of " + n, x.span(n, true), paid[greatest]);
+        }
+        Check.due("seed 1 and seed 6 came", (leasts[1] || greatests[1]) && (leasts[6] || greatests[6]), true);
     }
 }
