@@ -73,6 +73,7 @@ public final class DishesTest {
         dueTurns("grief 1 if 1 < 2 and not new or 2 < 1 and not new", 1, 0, 0);
         dueTurns("grief 1 if 2 < 1 or not (new or not war)", 1, 0, 0);
         dueTurns("grief 1 if day + 999 > 998 and day < 999", 1, 1, 1);
+        dueTurns("grief 1 if not alone and company > 8", 0, 0, 1);
         dueTurns("grief 1 if sorrow > 0", 0, 0, 0);
         dueTurns("grief 1 if sorrow + 1 > 0 + 0", 1, 1, 1);
         dueTurns("grief 1 if spoons < 1", 1, 1, 1);
@@ -92,7 +93,7 @@ public final class DishesTest {
         Check.due("pays", x.dish(0, 10), 62);
         x.had(0, 0, 0, -1);
         Check.due("in the war from 0 to 0, both too", x.dish(0, 10), 64);
-        Check.law(x, "grief 1 if alone");
+        Check.law(x, "grief 1 if alone and not not alone;grief 2 if not alone");
         Check.due("alone", x.dish(0, 9), 1);
         Check.law(x, "");
         Check.due("turns without lines", x.dish(0, 9), 0);

@@ -229,6 +229,10 @@ public final class WouldBeTest {
         Check.dueThrow("21 looks", ARGUMENT, () -> serve(x, new int[21]));
         Check.due("the tape is used up", x.feed(0, 0, 0, 0, 0), 20);
         Check.due("without dishes", serve(new BiteYears()), -1);
+        BiteYears same = Check.with("dish 11111 first 0 at 0;dish 11111 first 0 at 0;dish 11111 first 0 at 0;dish 11111 first 0 at 0;dish 11111 first 0 at 0;"
+            + "dish 11111 first 0 at 0;dish 11111 first 0 at 0;dish 11111 first 0 at 0;dish 11111 first 0 at 0;dish 11111 first 0 at 0", null);
+        Check.life(same, "dish 11111 first 0 at 0;dish 11111 first 0 at 0");
+        Check.due("twelve of day 0 are not parted", serve(same, 0, 1), 0);
     }
 
     private static int jars(BiteYears x, int k, int... tastes) {
