@@ -46,7 +46,9 @@ final class Check {
         for (int i = 0; i < text.length(); i += 20) {
             x.feed(four(text, i), four(text, i + 4), four(text, i + 8), four(text, i + 12), four(text, i + 16));
         }
-        x.end(text.length());
+        if (!x.end(text.length())) {
+            throw new IllegalStateException("the test's text is longer than a tape: " + text);
+        }
     }
 
     static void tape(BiteYears x, int... bytes) {
