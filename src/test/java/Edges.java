@@ -23,10 +23,22 @@ class Edges {
         Object on(BiteYears x);
     }
 
-    /** The tests from here on belong to this sentence of the document. */
+    /** The tests from here on belong to this sentence under a promise's own heading. */
     static void of(String heading, String sentence) {
+        begin(heading, heading, sentence);
+    }
+
+    /** The tests from here on belong to this sentence of the terms, on which these promises rest. */
+    static void term(String sentence, int... promises) {
+        begin("Terms", "Terms, of promises " + java.util.Arrays.toString(promises), sentence);
+        for (int promise : promises) {
+            Check.due("whether there is promise " + promise, promise >= 1 && promise <= 48, true);
+        }
+    }
+
+    private static void begin(String heading, String where, String sentence) {
         endOfSentence();
-        here = heading + ": " + sentence;
+        here = where + ": " + sentence;
         Check.due("whether the document says under " + here, DOCUMENT.quote(heading, sentence), true);
         askedHere = 0;
     }

@@ -44,7 +44,7 @@ final class EdgesOfAnswers extends Edges {
     }
 
     private static void near() {
-        of("Terms", "NEAR a DISH: other DISHES that are FAR from it by REACH at most, as bits.");
+        term("NEAR a DISH: other DISHES that are FAR from it by REACH at most, as bits.", 9);
         BiteYears x = with("dish 00000;dish 00004;dish 00005 first 1 at 1;dish 00006;dish 00000;reach 5");
         due("by 4, 5 and 0, not by 6 nor itself", x.near(0), 2 | 4 | 16);
         x.reach(4);
@@ -62,7 +62,7 @@ final class EdgesOfAnswers extends Edges {
     }
 
     private static void left() {
-        of("Terms", "LEFT: DISHES that are NEW, as bits.");
+        term("LEFT: DISHES that are NEW, as bits.", 10);
         due("without dishes", new BiteYears().left(), 0);
         due("all of twelve", dishes(12).left(), 4095);
         BiteYears x = dishes(12);
@@ -85,8 +85,8 @@ final class EdgesOfAnswers extends Edges {
     }
 
     private static void menu() {
-        of("Terms", "MENU: DISHES served one behind another (the TAPE; from now on, as SPOONS; those behind the one at which SORROW is 99 are not taken): "
-            + "AT, SORROW, how many SPOONS she takes, what all these PAY together.");
+        term("MENU: DISHES served one behind another (the TAPE; from now on, as SPOONS; those behind the one at which SORROW is 99 are not taken): "
+            + "AT, SORROW, how many SPOONS she takes, what all these PAY together.", 19);
         String life = "dish 11111 first 10 at 1;dish 22222 first 20 at 1;dish 99999;wage 2";
         dueMenu("none", () -> withSorrow(5, life, "grief 7"), "", 10, 5, 0, 0);
         dueMenu("till 98", () -> withSorrow(0, life, "grief 49"), bytes(1, 1), 20, 98, 2, 4);
@@ -102,7 +102,7 @@ final class EdgesOfAnswers extends Edges {
     }
 
     private static void menuStaysNot() {
-        of("Terms", "(Nothing stays.)");
+        term("(Nothing stays.)", 19);
         for (int what = 0; what < 4; what++) {
             int asked = what;
             unchangedButTape("menu " + what, bytes(1, 4, 1, 5), x -> x.menu(asked));
@@ -123,7 +123,7 @@ final class EdgesOfAnswers extends Edges {
     }
 
     private static void age() {
-        of("Terms", "AGE of a HAD DISH: FIRST by 100, rounded down.");
+        term("AGE of a HAD DISH: FIRST by 100, rounded down.", 20, 22);
         int[][] cases = {{0, 0}, {99, 0}, {100, 1}, {199, 1}, {200, 2}, {899, 8}, {900, 9}, {999, 9}};
         for (int[] one : cases) {
             BiteYears x = withFirst(one[0]);
@@ -141,7 +141,7 @@ final class EdgesOfAnswers extends Edges {
     }
 
     private static void fewestBits() {
-        of("Terms", "FEWEST of AGES that must be had and AGES that must not (each as bits 0 to 9; AGES of 10 and more count for nothing):");
+        term("FEWEST of AGES that must be had and AGES that must not (each as bits 0 to 9; AGES of 10 and more count for nothing):", 20);
         BiteYears all = withFirst(50, 150, 250, 350, 450, 550, 650, 750, 850, 950);
         due("bits 0 to 9", all.fewest(1023, 0), 1023);
         for (int age = 0; age < 10; age++) {
@@ -156,7 +156,7 @@ final class EdgesOfAnswers extends Edges {
     }
 
     private static void fewest() {
-        of("Terms", "the fewest HAD DISHES of whose AGES each of the first is one and none of the others: of several sets the least as bits; none.");
+        term("the fewest HAD DISHES of whose AGES each of the first is one and none of the others: of several sets the least as bits; none.", 20);
         BiteYears x = withFirst(NONE, 110, 199, 0, 999, 200, 150);
         due("none must be had", x.fewest(0, 0), 0);
         due("one age of several dishes", x.fewest(2, 0), 2);
@@ -184,7 +184,7 @@ final class EdgesOfAnswers extends Edges {
     }
 
     private static void order() {
-        of("Terms", "ORDER of a set of DISHES (6 at most): all served one behind another, each once (as in a MENU), so that the greatest SORROW, now or behind any of them, is the least: how great;");
+        term("ORDER of a set of DISHES (6 at most): all served one behind another, each once (as in a MENU), so that the greatest SORROW, now or behind any of them, is the least: how great;", 21);
         BiteYears x = dishes(12);
         due("none", x.order(0, NONE), 0);
         due("six", x.order(63, NONE), 0);
@@ -210,7 +210,7 @@ final class EdgesOfAnswers extends Edges {
     }
 
     private static void orderRow() {
-        of("Terms", "which DISH is the k-th (from 0 on) in the first such row (by the first unlike one, the lesser); none.");
+        term("which DISH is the k-th (from 0 on) in the first such row (by the first unlike one, the lesser); none.", 21);
         String life = "dish 11111 first 10 at 1;dish 22222 first 20 at 1;dish 33333 first 30 at 1;dish 44444 first 40 at 1";
         String law = "grief 30 if dish < 1;joy 20 if dish > 0 and dish < 2;grief 25 if dish > 1 and dish < 3";
         dueRow("of two the first", rowOf(withSorrow(0, life, law), 7, 4), 35, 0, 1, 2, NONE);
@@ -229,7 +229,7 @@ final class EdgesOfAnswers extends Edges {
     // ---- who he was, and the unknown dish ----
 
     private static void he() {
-        of("Terms", "HE: told are pairs of an AGE and a PLACE: COMPANY 0 to 7 with whom for each of these some DISH was HAD FIRST in that AGE at that PLACE: as bits.");
+        term("HE: told are pairs of an AGE and a PLACE: COMPANY 0 to 7 with whom for each of these some DISH was HAD FIRST in that AGE at that PLACE: as bits.", 22);
         BiteYears x = with("dish 11111 first 100 at 1 with 0;dish 11111 first 199 at 1 with 7;dish 11111 first 200 at 1 with 7;dish 11111 first 150 at 1;dish 11111 first 99 at 1 with 3;"
             + "dish 11111 first 150 at 2 with 7;dish 11111");
         due("of age 1 at 1: 0 and 7, not nobody", taped(x, bytes(1, 1)).he(), 129);
@@ -248,7 +248,7 @@ final class EdgesOfAnswers extends Edges {
     }
 
     private static void unknown() {
-        of("Terms", "UNKNOWN: told are some LOOKS at her behind one and the same unknown HAD DISH (each its FIRST by 10, rounded down, or 1 more): DISHES that fit all of these, as bits.");
+        term("UNKNOWN: told are some LOOKS at her behind one and the same unknown HAD DISH (each its FIRST by 10, rounded down, or 1 more): DISHES that fit all of these, as bits.", 23);
         BiteYears x = withFirst(119, 120, 129, 130, 139, 140, NONE, 0, 9, 10);
         due("12: 119 and 1 more, 120, 129", taped(x, bytes(12)).unknown(), 1 | 2 | 4);
         due("13", taped(x, bytes(13)).unknown(), 2 | 4 | 8 | 16);
@@ -267,8 +267,8 @@ final class EdgesOfAnswers extends Edges {
     }
 
     private static void serve() {
-        of("Terms", "SERVE: the HAD DISH of which to ask, whether FIRST of the unknown one is not later than its own, so that those that fit are parted so that the greater part is the least "
-            + "(of several the least; none with fewer than two).");
+        term("SERVE: the HAD DISH of which to ask, whether FIRST of the unknown one is not later than its own, so that those that fit are parted so that the greater part is the least "
+            + "(of several the least; none with fewer than two).", 24);
         due("two: not later than the first of them", taped(withFirst(121, 125), bytes(12)).serve(), 0);
         due("two in the other row", taped(withFirst(125, 121), bytes(12)).serve(), 1);
         due("one", taped(withFirst(121, 500), bytes(12)).serve(), NONE);
@@ -282,6 +282,8 @@ final class EdgesOfAnswers extends Edges {
         due("one that does not fit is no better than one that does", taped(withFirst(500, 121, 125), bytes(12)).serve(), 1);
         due("those of the same day are not later", taped(withFirst(121, 121, 122, 122), bytes(12)).serve(), 0);
         due("by all had ones, without looks", taped(withFirst(9999, 0), "").serve(), 1);
+        due("twelve of one day", taped(withFirst(0, 0, 0, 0, 0, 0, 0, 0, 0, 0, 0, 0), bytes(0)).serve(), 0);
+        due("twelve, by half", taped(withFirst(12, 11, 10, 9, 8, 7, 6, 5, 4, 3, 2, 1), "").serve(), 6);
         unchangedButTape("serve", "", BiteYears::serve);
     }
 
@@ -304,8 +306,8 @@ final class EdgesOfAnswers extends Edges {
     }
 
     private static void jars() {
-        of("Terms", "JARS: told are jars of five TASTES each (at most 5): each is held for another DISH, so that by how much each is FAR from its own is, all together, the least: how much; "
-            + "which DISH the k-th one is in the first such way (the least for the first, then the next, ..);");
+        term("JARS: told are jars of five TASTES each (at most 5): each is held for another DISH, so that by how much each is FAR from its own is, all together, the least: how much; "
+            + "which DISH the k-th one is in the first such way (the least for the first, then the next, ..);", 25);
         BiteYears x = with("dish 00000;dish 00001;dish 00003;dish 99999;dish 00000;dish 55555");
         dueRow("one jar", jarsOf(x, "00002", 2), 1, 1, NONE);
         dueRow("one jar, the least of several", jarsOf(x, "00000", 2), 0, 0, NONE);
@@ -321,7 +323,7 @@ final class EdgesOfAnswers extends Edges {
     }
 
     private static void jarsAndDishes() {
-        of("Terms", "none, if there are more jars than DISHES.");
+        term("none, if there are more jars than DISHES.", 25);
         dueRow("as many jars as dishes", jarsOf(with("dish 00000;dish 11111"), "00000" + "00000", 2), 5, 0, 1);
         dueRow("one jar more", jarsOf(with("dish 00000;dish 11111"), "00000".repeat(3), 3), NONE, NONE, NONE, NONE);
         dueRow("one jar without dishes", jarsOf(new BiteYears(), "00000", 1), NONE, NONE);
@@ -333,7 +335,7 @@ final class EdgesOfAnswers extends Edges {
     // ---- what dishes tell ----
 
     private static void kitchen() {
-        of("Terms", "KITCHEN at a PLACE: DISHES HAD first there, as bits.");
+        term("KITCHEN at a PLACE: DISHES HAD first there, as bits.", 26);
         BiteYears x = withFirst(0, 1, 2, 3, 4, 5, 6, 7, 8, 9, 10, 11);
         for (int place = 0; place < 8; place++) {
             due("at " + place, x.kitchen(place), 1 << place | (place < 4 ? 256 << place : 0));
@@ -343,7 +345,7 @@ final class EdgesOfAnswers extends Edges {
     }
 
     private static void dated() {
-        of("Terms", "DATED: the latest FIRST of told DISHES (a set): since when a kitchen that serves them all must be; none, if one is NEW or there is none.");
+        term("DATED: the latest FIRST of told DISHES (a set): since when a kitchen that serves them all must be; none, if one is NEW or there is none.", 27);
         BiteYears x = withFirst(0, 9999, 500, NONE, 500);
         due("day 0", x.dated(1), 0);
         due("day 9999", x.dated(2), 9999);
@@ -357,7 +359,7 @@ final class EdgesOfAnswers extends Edges {
     }
 
     private static void gap() {
-        of("Terms", "GAP: the greatest difference of two FIRSTS that are next to each other in time (0 with fewer than two HAD).");
+        term("GAP: the greatest difference of two FIRSTS that are next to each other in time (0 with fewer than two HAD).", 28);
         due("without dishes", new BiteYears().gap(), 0);
         due("none had", withFirst(NONE, NONE).gap(), 0);
         due("one had", withFirst(700, NONE).gap(), 0);
@@ -373,7 +375,7 @@ final class EdgesOfAnswers extends Edges {
     }
 
     private static void lover() {
-        of("Terms", "LOVER: COMPANY with whom the most DISHES were HAD (of several the least; none).");
+        term("LOVER: COMPANY with whom the most DISHES were HAD (of several the least; none).", 29);
         due("without dishes", new BiteYears().lover(), NONE);
         due("none had", dishes(2).lover(), NONE);
         due("with nobody", with("dish 11111 first 1 at 1;dish 11111 first 1 at 2").lover(), NONE);
@@ -385,7 +387,7 @@ final class EdgesOfAnswers extends Edges {
     }
 
     private static void oldest() {
-        of("Terms", "OLDEST: the HAD DISH of the least FIRST (of several the least; none).");
+        term("OLDEST: the HAD DISH of the least FIRST (of several the least; none).", 30);
         due("without dishes", new BiteYears().oldest(), NONE);
         due("none had", dishes(2).oldest(), NONE);
         due("day 0", withFirst(1, 0).oldest(), 1);
@@ -395,7 +397,7 @@ final class EdgesOfAnswers extends Edges {
     }
 
     private static void sad() {
-        of("Terms", "SAD: the DISH that TURNS by the most (of several the least; none).");
+        term("SAD: the DISH that TURNS by the most (of several the least; none).", 31);
         due("without dishes", new BiteYears().sad(), NONE);
         due("without a law the least", dishes(3).sad(), 0);
         BiteYears x = dishes(12);
@@ -411,8 +413,8 @@ final class EdgesOfAnswers extends Edges {
     }
 
     private static void hosts() {
-        of("Terms", "HOSTS of two DISHES (a, b): each of two hosts serves a (0) or b (1), unseen by the other one: if both serve the same one, each has a half of what it PAYS (rounded down); "
-            + "else each has what its own one PAYS, less 2, if both DISHES are NEAR each other: choices (2 times the first host's and the second one's) from which neither would have more by its other one alone: as bits.");
+        term("HOSTS of two DISHES (a, b): each of two hosts serves a (0) or b (1), unseen by the other one: if both serve the same one, each has a half of what it PAYS (rounded down); "
+            + "else each has what its own one PAYS, less 2, if both DISHES are NEAR each other: choices (2 times the first host's and the second one's) from which neither would have more by its other one alone: as bits.", 32);
         for (int payA = 0; payA <= 9; payA++) {
             for (int payB = 0; payB <= 9; payB++) {
                 BiteYears x = with("dish 00000;dish 00005;wage 0", "pay " + payA + " if dish < 1;pay " + payB + " if dish > 0");
@@ -442,7 +444,7 @@ final class EdgesOfAnswers extends Edges {
     }
 
     private static void breaks() {
-        of("Terms", "BREAKS of a DISH: how many SPOONS of it, one behind another from now on, she takes till SORROW is 99 (0 to 100); none.");
+        term("BREAKS of a DISH: how many SPOONS of it, one behind another from now on, she takes till SORROW is 99 (0 to 100); none.", 33);
         String dish = "dish 11111 first 1 at 1";
         due("now 99", withSorrow(99, dish, "grief 1").breaks(0), 0);
         due("now 98, by 1", withSorrow(98, dish, "grief 1").breaks(0), 1);
@@ -459,7 +461,7 @@ final class EdgesOfAnswers extends Edges {
     }
 
     private static void twins() {
-        of("Terms", "TWINS: pairs of DISHES of the same TASTES: how many.");
+        term("TWINS: pairs of DISHES of the same TASTES: how many.", 34);
         due("without dishes", new BiteYears().twins(), 0);
         due("one", dishes(1).twins(), 0);
         due("none", dishes(12).twins(), 0);
@@ -472,7 +474,7 @@ final class EdgesOfAnswers extends Edges {
     }
 
     private static void next() {
-        of("Terms", "NEXT: the HAD DISH of the least FIRST that is later than AT (of several the least; none).");
+        term("NEXT: the HAD DISH of the least FIRST that is later than AT (of several the least; none).", 35);
         due("without dishes", new BiteYears().next(), NONE);
         due("on the day where she is", withFirst(500).next(), NONE);
         due("ahead of it", withFirst(499).next(), NONE);
@@ -489,7 +491,7 @@ final class EdgesOfAnswers extends Edges {
     }
 
     private static void warlike() {
-        of("Terms", "WARLIKE: HAD DISHES whose FIRST is in the WAR, as bits.");
+        term("WARLIKE: HAD DISHES whose FIRST is in the WAR, as bits.", 36);
         due("without dishes", new BiteYears().warlike(), 0);
         BiteYears x = withFirst(239, 240, 275, 310, 311, NONE);
         Check.life(x, "war 240 to 310");
@@ -503,7 +505,7 @@ final class EdgesOfAnswers extends Edges {
     }
 
     private static void company() {
-        of("Terms", "COMPANY of one: DISHES HAD first with that one, as bits.");
+        term("COMPANY of one: DISHES HAD first with that one, as bits.", 37);
         BiteYears x = withFirst(0, 1, 2, 3, 4, 5, 6, 7, 8, 9, 10, 11);
         for (int one = 0; one < 8; one++) {
             due("with " + one, x.company(one), 1 << one | (one < 4 ? 256 << one : 0));
@@ -515,7 +517,7 @@ final class EdgesOfAnswers extends Edges {
     // ---- odds and shares ----
 
     private static void odds() {
-        of("Terms", "ODDS of N LOOKS (0 to 6) with K slips (0 to 6) at least, by SLIP, each alike, in 10000, rounded down.");
+        term("ODDS of N LOOKS (0 to 6) with K slips (0 to 6) at least, by SLIP, each alike, in 10000, rounded down.", 38);
         for (int slip : new int[] {0, 1, 33, 50, 99, 100}) {
             BiteYears x = with("slip " + slip);
             for (int n = 0; n <= 6; n++) {
@@ -550,11 +552,13 @@ final class EdgesOfAnswers extends Edges {
     }
 
     private static void share() {
-        of("Terms", "SHARE of a PLACE: DISHES HAD there in hundredths of all HAD, rounded down (0 without).");
+        term("SHARE of a PLACE: DISHES HAD there in hundredths of all HAD, rounded down (0 without).", 39);
         due("without dishes", new BiteYears().share(0), 0);
         due("without had ones", dishes(3).share(0), 0);
         due("all", with("dish 11111 first 1 at 7;dish 11111 first 1 at 7;dish 11111").share(7), 100);
+        due("one alone", with("dish 11111 first 1 at 7").share(7), 100);
         due("none there", with("dish 11111 first 1 at 7").share(0), 0);
+        due("all of twelve", with(lines(12, "dish 11111 first 1 at 3")).share(3), 100);
         BiteYears x = with("dish 11111 first 1 at 7;dish 11111 first 1 at 7;dish 11111 first 1 at 0");
         due("66.6", x.share(7), 66);
         due("33.3", x.share(0), 33);
@@ -569,7 +573,7 @@ final class EdgesOfAnswers extends Edges {
     }
 
     private static void trial() {
-        of("Terms", "TRIAL of N EVENINGS (0 to 60) from now (draws, too; nothing stays): SORROW then; PAID then.");
+        term("TRIAL of N EVENINGS (0 to 60) from now (draws, too; nothing stays): SORROW then; PAID then.", 40);
         for (int n : new int[] {0, 1, 2, 59, 60}) {
             for (int seed : new int[] {1, 77, -5}) {
                 BiteYears x = triedOne();
@@ -595,7 +599,7 @@ final class EdgesOfAnswers extends Edges {
     }
 
     private static void span() {
-        of("Terms", "SPAN: the least and the greatest PAID so from SEED 1, 2, .. 6.");
+        term("SPAN: the least and the greatest PAID so from SEED 1, 2, .. 6.", 41);
         boolean[] first = new boolean[7];
         boolean[] last = new boolean[7];
         for (int n = 0; n <= 60; n++) {
@@ -628,7 +632,7 @@ final class EdgesOfAnswers extends Edges {
     }
 
     private static void led() {
-        of("Terms", "LED: how many rows of THE LOG are of a DISH; the EVENING of the latest (none).");
+        term("LED: how many rows of THE LOG are of a DISH; the EVENING of the latest (none).", 42);
         BiteYears x = with("dish 11111 first 10 at 1;dish 22222");
         due("rows of none", x.led(0, false), 0);
         due("evening of none", x.led(0, true), NONE);
@@ -657,7 +661,7 @@ final class EdgesOfAnswers extends Edges {
     // ---- acts undone, and the image ----
 
     private static void undone() {
-        of("Terms", "UNDONE: the latest ACT not undone yet (12 are remembered; EVENINGS of one call are one): all is as ahead of it (but for the TAPE, fault(), THE IMAGE).");
+        term("UNDONE: the latest ACT not undone yet (12 are remembered; EVENINGS of one call are one): all is as ahead of it (but for the TAPE, fault(), THE IMAGE).", 45);
         for (int acts : new int[] {0, 1, 11, 12, 13, 24, 25}) {
             BiteYears x = new BiteYears();
             for (int i = 0; i < acts; i++) {
@@ -684,8 +688,50 @@ final class EdgesOfAnswers extends Edges {
         due("60 evenings are one act", x.count(16), 12);
         x.undo();
         dueRow("60 evenings undone", counts(x, 3, 7, 16), 511, 11, 11);
+        undoneAll();
+        undoneRows();
         undoneActs();
         undoneButFor();
+    }
+
+    private static void undoneAll() {
+        BiteYears x = full();
+        for (int i = 0; i < 10; i++) {
+            due("undo " + i + " of the full one", x.undo(), true);
+        }
+        dueRow("all is as its texts told", counts(x, 0, 1, 2, 3, 4, 5, 6, 7, 8, 9, 10, 11, 12, 13, 14, 15, 16), 6, 1, 4, 600, 600, 0, 0, 0, 5, 240, 310, 50, 5, 2, 0, 0, 0);
+        due("the seed too", seedOf(x), 1);
+        dueRow("the dishes too", new int[] {x.dish(0, 5), x.dish(1, 5), x.dish(2, 5), x.dish(3, 5), x.dish(4, 5), x.dish(5, 5)}, 120, 250, 305, NONE, NONE, 120);
+    }
+
+    /** The log is full, so that each spoon pushes a row out. */
+    private static void undoneRows() {
+        BiteYears x = withSixtyRows();
+        for (int i = 0; i < 12; i++) {
+            x.spoon(1);
+        }
+        for (int i = 0; i < 12; i++) {
+            x.undo();
+        }
+        dueRows(x, "acts undone");
+    }
+
+    private static BiteYears withSixtyRows() {
+        BiteYears x = with("dish 11111 first 10 at 1;dish 22222 first 20 at 2");
+        for (int i = 0; i < 60; i++) {
+            x.spoon(i % 7 == 3 ? 1 : 0);
+            if (i % 5 == 4) {
+                x.crust();
+            }
+        }
+        return x;
+    }
+
+    private static void dueRows(BiteYears x, String when) {
+        for (int i = 0; i < 60; i++) {
+            int dish = i % 7 == 3 ? 1 : 0;
+            dueRow("row " + i + " behind " + when, row(x, 59 - i), i / 5, dish, dish, dish * 10 + 10);
+        }
     }
 
     private static void undoneActs() {
@@ -729,7 +775,7 @@ final class EdgesOfAnswers extends Edges {
     }
 
     private static void noneRemembered() {
-        of("Terms", "A text, going back: none are remembered.");
+        term("A text, going back: none are remembered.", 4, 5, 45, 47);
         BiteYears x = full();
         due("acts ahead of a life", x.count(16) > 0, true);
         Check.life(x, "");
@@ -756,7 +802,7 @@ final class EdgesOfAnswers extends Edges {
     }
 
     private static void image() {
-        of("Terms", "THE IMAGE (one) of all may be kept, and gone back to (but for the TAPE, fault() and THE IMAGE itself).");
+        term("THE IMAGE (one) of all may be kept, and gone back to (but for the TAPE, fault() and THE IMAGE itself).", 46, 47);
         BiteYears x = new BiteYears();
         due("without one", x.back(), false);
         x.image();
@@ -774,6 +820,11 @@ final class EdgesOfAnswers extends Edges {
         y.crust();
         y.image();
         dueGoneBack(y);
+        BiteYears z = withSixtyRows();
+        z.image();
+        z.evenings(60);
+        z.back();
+        dueRows(z, "going back");
     }
 
     /** All is changed, and then as it was. */
@@ -808,7 +859,7 @@ final class EdgesOfAnswers extends Edges {
     // ---- exceptions ----
 
     private static void severalExceptions() {
-        of("Terms", "Of several exceptions the one told first is thrown;");
+        term("Of several exceptions the one told first is thrown;", 4, 7, 11, 13, 19, 32);
         refused("dish: no dish, no what", INDEX, x -> x.dish(6, 11));
         refused("spoon: no dish, sorrow 99", INDEX, Edges::saddest, x -> x.spoon(6));
         refused("had: no dish, no day", INDEX, x -> x.had(6, 10000, 0, 0));
@@ -828,7 +879,7 @@ final class EdgesOfAnswers extends Edges {
     }
 
     private static void whatThrowsChangesNothing() {
-        of("Terms", "a call that throws changes nothing but the TAPE, where it is used up.");
+        term("a call that throws changes nothing but the TAPE, where it is used up.", 4, 5, 11, 14, 18, 19, 22, 23, 24, 25);
         refused("spoon", STATE, Edges::saddest, x -> x.spoon(0));
         refused("spoon of none", INDEX, x -> x.spoon(6));
         refused("forget", STATE, x -> x.forget(1));
@@ -844,7 +895,7 @@ final class EdgesOfAnswers extends Edges {
     }
 
     private static void index() {
-        of("Terms", "IndexOutOfBoundsException: there is no such DISH, PLACE.");
+        term("IndexOutOfBoundsException: there is no such DISH, PLACE.", 7, 8, 9, 11, 13, 14, 16, 26, 32, 33, 39, 42);
         Use[] last = {x -> x.dish(5, 0), x -> x.far(5, 5), x -> x.near(5), x -> x.spoon(5), x -> x.had(5, 0, 7, 0), x -> x.forget(5), x -> x.hosts(5, 0), x -> x.breaks(5), x -> x.led(5, true),
             x -> x.house(7), x -> x.kitchen(7), x -> x.share(7)};
         for (int i = 0; i < last.length; i++) {
@@ -872,7 +923,7 @@ final class EdgesOfAnswers extends Edges {
     }
 
     private static void argument() {
-        of("Terms", "IllegalArgumentException: a number is none, or two are one.");
+        term("IllegalArgumentException: a number is none, or two are one.", 13, 15, 18, 20, 32, 37, 38, 40, 41);
         for (int none : new int[] {LEAST, -2, 10000, GREATEST}) {
             refused("had on day " + none, ARGUMENT, x -> x.had(0, none, 0, 0));
             refused("had with " + none, ARGUMENT, x -> x.had(0, 0, 0, none));
@@ -892,14 +943,14 @@ final class EdgesOfAnswers extends Edges {
     }
 
     private static void state() {
-        of("Terms", "IllegalStateException: it cannot be.");
+        term("IllegalStateException: it cannot be.", 11, 14);
         refused("a spoon with sorrow 99", STATE, Edges::saddest, x -> x.spoon(0));
         refused("to forget a new one", STATE, x -> x.forget(1));
         due("to forget a had one", full().forget(0), 120);
     }
 
     private static void sets() {
-        of("Terms", "Sets are bits; of none they count for nothing.");
+        term("Sets are bits; of none they count for nothing.", 21, 27);
         BiteYears x = withFirst(5, 6, 7, NONE, NONE, NONE);
         due("dated: bits of none", x.dated(-1 << 6), NONE);
         due("dated: bits of none and of some", x.dated(-1 << 6 | 3), 6);

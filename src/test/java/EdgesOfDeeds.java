@@ -24,7 +24,7 @@ final class EdgesOfDeeds extends Edges {
     }
 
     private static void far() {
-        of("Terms", "FAR of two DISHES: by how much TASTES of both differ, one by one, all five together.");
+        term("FAR of two DISHES: by how much TASTES of both differ, one by one, all five together.", 8);
         BiteYears x = with("dish 00000;dish 99999;dish 90000;dish 09000;dish 00001;dish 00000;dish 10000;dish 01000;dish 00100;dish 00010");
         due("the most", x.far(0, 1), 45);
         due("the most, from the other one", x.far(1, 0), 45);
@@ -37,7 +37,7 @@ final class EdgesOfDeeds extends Edges {
     }
 
     private static void callsItself() {
-        of("Terms", "CALLS of a DISH: itself, if it is HAD;");
+        term("CALLS of a DISH: itself, if it is HAD;", 7, 11);
         BiteYears x = with("dish 11111 first 5 at 1;dish 11111 first 6 at 2;dish 11111;reach 0");
         due("a had one with a twin of a lesser number", x.dish(1, 8), 1);
         due("the twin", x.dish(0, 8), 0);
@@ -49,7 +49,7 @@ final class EdgesOfDeeds extends Edges {
     }
 
     private static void callsTheNearest() {
-        of("Terms", "else of those HAD the one that is the least FAR from it, if that is REACH at most (of several the least); none.");
+        term("else of those HAD the one that is the least FAR from it, if that is REACH at most (of several the least); none.", 7, 11);
         BiteYears x = with("dish 55555;dish 55557 first 30 at 1;dish 55553 first 20 at 2;dish 55556 first 10 at 3;dish 55555;reach 2");
         due("the least far, though it comes later", x.dish(0, 8), 3);
         x.forget(3);
@@ -73,7 +73,7 @@ final class EdgesOfDeeds extends Edges {
     }
 
     private static void spoonPays() {
-        of("Terms", "A SPOON of a DISH: (a) what it PAYS is PAID more (9999 at most);");
+        term("A SPOON of a DISH: (a) what it PAYS is PAID more (9999 at most);", 11);
         int[][] cases = {{0, 1, 1}, {0, 0, 0}, {9997, 1, 9998}, {9998, 1, 9999}, {9999, 1, 9999}, {9998, 2, 9999}, {9950, 49, 9999}, {9950, 50, 9999}, {9949, 49, 9998}};
         for (int[] one : cases) {
             BiteYears x = EdgesOfTerms.withPaid(one[0]);
@@ -90,7 +90,7 @@ final class EdgesOfDeeds extends Edges {
     }
 
     private static void spoonTurns() {
-        of("Terms", "(b) SORROW is what it TURNS by more (0 to 99);");
+        term("(b) SORROW is what it TURNS by more (0 to 99);", 11);
         String dish = "dish 11111 first 1 at 1";
         int[][] cases = {{0, 0, 0}, {0, 1, 1}, {39, 60, 99}, {40, 60, 99}, {98, 1, 99}, {98, 0, 98}};
         for (int[] one : cases) {
@@ -114,7 +114,7 @@ final class EdgesOfDeeds extends Edges {
     }
 
     private static void spoonLeads() {
-        of("Terms", "(c) AT is FIRST of what it CALLS up, or TODAY, if that is none;");
+        term("(c) AT is FIRST of what it CALLS up, or TODAY, if that is none;", 11);
         BiteYears x = with("dish 11111 first 0 at 1;dish 11112;dish 99999;reach 1;today 333");
         due("a had one", x.spoon(0), 0);
         due("at", x.count(4), 0);
@@ -127,7 +127,7 @@ final class EdgesOfDeeds extends Edges {
     }
 
     private static void spoonMakesHad() {
-        of("Terms", "(d) if it was NEW: it is HAD: FIRST is TODAY, at HOUSE, with nobody; SPOONS is 1 more.");
+        term("(d) if it was NEW: it is HAD: FIRST is TODAY, at HOUSE, with nobody; SPOONS is 1 more.", 11);
         BiteYears x = with("dish 11111 first 3 at 1 with 2;dish 11112;dish 99999;reach 1;today 0;house 7");
         x.spoon(1);
         dueRow("a new one that called up another one", firstOf(x, 1), 0, 7, NONE);
@@ -150,7 +150,7 @@ final class EdgesOfDeeds extends Edges {
     }
 
     private static void spoonByAllAhead() {
-        of("Terms", "(TURNS, PAYS by all as it is ahead.)");
+        term("(TURNS, PAYS by all as it is ahead.)", 11);
         BiteYears x = with("dish 11111", "grief 10;grief 3 if spoons > 0;grief 5 if new;pay 7 if sorrow > 0;pay 9 if spoons > 0;pay 20 if new;pay 30 if alone");
         dueRow("what it would turn by and pay", new int[] {x.dish(0, 9), x.dish(0, 10)}, 15, 21);
         x.spoon(0);
@@ -161,7 +161,7 @@ final class EdgesOfDeeds extends Edges {
     }
 
     private static void noSpoonAtTheEnd() {
-        of("Terms", "With SORROW 99 she takes no SPOON.");
+        term("With SORROW 99 she takes no SPOON.", 11, 18, 19, 33);
         String dish = "dish 11111 first 1 at 1;dish 22222";
         BiteYears x = withSorrow(98, dish, "joy 1");
         due("with 98", x.spoon(1), 1);
@@ -172,7 +172,7 @@ final class EdgesOfDeeds extends Edges {
     }
 
     private static void crust() {
-        of("Terms", "THE CRUST: TODAY is 1 more (9999 at most), AT is TODAY then, SORROW is the half, rounded down, SPOONS 0, EVENING 1 more (9999 at most).");
+        term("THE CRUST: TODAY is 1 more (9999 at most), AT is TODAY then, SORROW is the half, rounded down, SPOONS 0, EVENING 1 more (9999 at most).", 12);
         int[] sorrows = {0, 1, 2, 3, 97, 98, 99};
         for (int sorrow : sorrows) {
             BiteYears x = withSorrow(sorrow, "dish 11111 first 1 at 1", "");
@@ -206,7 +206,7 @@ final class EdgesOfDeeds extends Edges {
     }
 
     private static void eveningSpoons() {
-        of("Terms", "AN EVENING by draws: DRAW modulo 4, and 1, SPOONS, each of the DISH DRAW modulo how many there are");
+        term("AN EVENING by draws: DRAW modulo 4, and 1, SPOONS, each of the DISH DRAW modulo how many there are", 18, 43);
         for (int draw : new int[] {0, 1, 2, 3, 4, 7, 32764, 32767}) {
             BiteYears x = with("dish 11111 first 1 at 1");
             x.seed(seedThatDraws(draw));
@@ -230,7 +230,7 @@ final class EdgesOfDeeds extends Edges {
     }
 
     private static void eveningWithoutDishes() {
-        of("Terms", "(none, if there are none;");
+        term("(none, if there are none;", 18, 40, 41);
         BiteYears x = new BiteYears();
         due("spoons of an evening without dishes", x.evenings(1), 0);
         due("spoons of 60 evenings without dishes", x.evenings(60), 0);
@@ -240,7 +240,7 @@ final class EdgesOfDeeds extends Edges {
     }
 
     private static void eveningNotTaken() {
-        of("Terms", "of SPOONS that she does not take any more nothing comes, the DRAWS are made),");
+        term("of SPOONS that she does not take any more nothing comes, the DRAWS are made),", 18);
         for (int sorrow : new int[] {98, 99}) {
             BiteYears x = withSorrow(sorrow, "dish 11111 first 1 at 1;dish 99999", "grief 1;pay 7");
             int[] before = counts(x, 14, 15);
@@ -262,7 +262,7 @@ final class EdgesOfDeeds extends Edges {
     }
 
     private static void eveningThenCrust() {
-        of("Terms", "then THE CRUST.");
+        term("then THE CRUST.", 18);
         BiteYears x = withSorrow(0, "dish 11111 first 1 at 1", "grief 3");
         x.seed(seedThatDraws(0));
         x.evenings(1);
@@ -274,7 +274,7 @@ final class EdgesOfDeeds extends Edges {
     }
 
     private static void draw() {
-        of("Terms", "DRAW: SEED is 1103515245 times SEED and 12345, as an int that goes round; bits 16 to 30 (SEED 1 at first).");
+        term("DRAW: SEED is 1103515245 times SEED and 12345, as an int that goes round; bits 16 to 30 (SEED 1 at first).", 17, 18, 44);
         due("seed at first", seedOf(new BiteYears()), 1);
         int[] seeds = {0, 1, 2, -1, LEAST, GREATEST, 12345, -12345, 1 << 30, 65536};
         for (int seed : seeds) {
@@ -312,7 +312,7 @@ final class EdgesOfDeeds extends Edges {
     }
 
     private static void acts() {
-        of("Terms", "ACTS: a SPOON of a DISH; THE CRUST;");
+        term("ACTS: a SPOON of a DISH; THE CRUST;", 11, 12, 45);
         dueAct("a spoon", x -> x.spoon(0), 1);
         dueAct("the crust", BiteYears::crust, 1);
         dueAct("a seed", x -> x.seed(7), 0);
@@ -331,7 +331,7 @@ final class EdgesOfDeeds extends Edges {
     }
 
     private static void actsTold() {
-        of("Terms", "a DISH is told as HAD, or as NEW; REACH is told; HOUSE is told;");
+        term("a DISH is told as HAD, or as NEW; REACH is told; HOUSE is told;", 13, 14, 15, 16, 45);
         dueAct("had", x -> x.had(0, 1, 1, 1), 1);
         dueAct("had as it was", x -> x.had(0, x.dish(0, 5), x.dish(0, 6), x.dish(0, 7)), 1);
         dueAct("forget", x -> x.forget(0), 1);
@@ -342,7 +342,7 @@ final class EdgesOfDeeds extends Edges {
     }
 
     private static void looks() {
-        of("Terms", "a LOOK: the decade of AT (by 10, rounded down), 1 more if DRAW modulo 100 is below SLIP;");
+        term("a LOOK: the decade of AT (by 10, rounded down), 1 more if DRAW modulo 100 is below SLIP;", 17, 45);
         dueAct("a look", BiteYears::look, 1);
         int[][] days = {{0, 0}, {9, 0}, {10, 1}, {19, 1}, {129, 12}, {130, 13}, {999, 99}, {9989, 998}, {9990, 999}, {9999, 999}};
         for (int[] one : days) {
@@ -367,7 +367,7 @@ final class EdgesOfDeeds extends Edges {
     }
 
     private static void eveningsAreAnAct() {
-        of("Terms", "EVENINGS.");
+        term("EVENINGS.", 18, 45);
         dueAct("an evening", x -> x.evenings(1), 1);
         dueAct("60 evenings", x -> x.evenings(60), 1);
     }
@@ -380,7 +380,7 @@ final class EdgesOfDeeds extends Edges {
     }
 
     private static void log() {
-        of("Terms", "THE LOG: the latest 60 SPOONS: EVENING, the DISH, what it CALLED up (none), AT then.");
+        term("THE LOG: the latest 60 SPOONS: EVENING, the DISH, what it CALLED up (none), AT then.", 43, 48);
         BiteYears x = with("dish 11111 first 10 at 1;dish 11112;dish 99999;reach 1");
         due("rows at first", x.count(15), 0);
         x.spoon(2);

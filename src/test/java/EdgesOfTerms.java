@@ -28,7 +28,7 @@ final class EdgesOfTerms extends Edges {
     }
 
     private static void dishes() {
-        of("Terms", "DISHES (at most 12, numbered from 0 on):");
+        term("DISHES (at most 12, numbered from 0 on):", 4, 7, 48);
         due("no dishes", dishes(0).count(0), 0);
         refused("dish 0 of none", INDEX, () -> dishes(0), x -> x.dish(0, 0));
         BiteYears x = dishes(12);
@@ -47,7 +47,7 @@ final class EdgesOfTerms extends Edges {
     }
 
     private static void tastes() {
-        of("Terms", "five TASTES 0 to 9;");
+        term("five TASTES 0 to 9;", 4, 7, 25);
         BiteYears x = with("dish 09090;dish 90909");
         for (int taste = 0; taste < 5; taste++) {
             due("taste " + taste + " of 09090", x.dish(0, taste), taste % 2 * 9);
@@ -64,7 +64,7 @@ final class EdgesOfTerms extends Edges {
     }
 
     private static void hadOrNew() {
-        of("Terms", "HAD (FIRST: a DAY 0 to 9999, a PLACE 0 to 7, COMPANY 0 to 7, or nobody) or NEW.");
+        term("HAD (FIRST: a DAY 0 to 9999, a PLACE 0 to 7, COMPANY 0 to 7, or nobody) or NEW.", 7, 13, 14);
         BiteYears x = with("dish 11111");
         dueRow("a new one", firstOf(x, 0), NONE, NONE, NONE);
         x.had(0, 0, 0, 0);
@@ -84,7 +84,7 @@ final class EdgesOfTerms extends Edges {
     }
 
     private static void today() {
-        of("Terms", "TODAY: a DAY (500 at first).");
+        term("TODAY: a DAY (500 at first).", 12, 48);
         due("today at first", new BiteYears().count(3), 500);
         due("day 0", with("today 0").count(3), 0);
         BiteYears x = with("today 999");
@@ -98,7 +98,7 @@ final class EdgesOfTerms extends Edges {
     }
 
     private static void at() {
-        of("Terms", "AT: the DAY where she is (TODAY at first).");
+        term("AT: the DAY where she is (TODAY at first).", 11, 17, 48);
         BiteYears x = new BiteYears();
         due("at at first", x.count(4), 500);
         due("at at first is today", x.count(4), x.count(3));
@@ -114,7 +114,7 @@ final class EdgesOfTerms extends Edges {
     }
 
     private static void sorrow() {
-        of("Terms", "SORROW 0 to 99 (0 at first).");
+        term("SORROW 0 to 99 (0 at first).", 11, 48);
         due("sorrow at first", new BiteYears().count(5), 0);
         String dish = "dish 11111 first 1 at 1";
         int[][] cases = {{98, 1, 99}, {98, 2, 99}, {98, 60, 99}, {97, 1, 98}, {39, 60, 99}, {40, 60, 99}, {38, 60, 98}, {98, 0, 98}};
@@ -133,7 +133,7 @@ final class EdgesOfTerms extends Edges {
     }
 
     private static void spoonsAndEvening() {
-        of("Terms", "SPOONS of this evening (0 at first), EVENING (0 at first).");
+        term("SPOONS of this evening (0 at first), EVENING (0 at first).", 11, 12, 43, 48);
         BiteYears x = with("dish 11111 first 1 at 1");
         dueRow("spoons and evening at first", counts(x, 6, 7), 0, 0);
         x.spoon(0);
@@ -147,7 +147,7 @@ final class EdgesOfTerms extends Edges {
     }
 
     private static void reach() {
-        of("Terms", "REACH 0 to 45 (5 at first).");
+        term("REACH 0 to 45 (5 at first).", 9, 15, 48);
         BiteYears x = with("dish 00000;dish 00005 first 1 at 1;dish 00006 first 2 at 2");
         due("reach at first", x.count(8), 5);
         due("far by 5 is near at first, by 6 not", x.near(0), 2);
@@ -164,7 +164,7 @@ final class EdgesOfTerms extends Edges {
     }
 
     private static void war() {
-        of("Terms", "WAR: from a DAY to a DAY (both too; 0 to 0 at first).");
+        term("WAR: from a DAY to a DAY (both too; 0 to 0 at first).", 4, 36, 48);
         dueRow("the war at first", counts(new BiteYears(), 9, 10), 0, 0);
         BiteYears x = with("dish 11111 first 0 at 0;dish 11111 first 1 at 0", "grief 1 if war");
         due("day 0 is in the war at first, day 1 is not", x.warlike(), 1);
@@ -180,7 +180,7 @@ final class EdgesOfTerms extends Edges {
     }
 
     private static void slip() {
-        of("Terms", "SLIP 0 to 100 (0 at first).");
+        term("SLIP 0 to 100 (0 at first).", 4, 17, 48);
         due("slip at first", new BiteYears().count(11), 0);
         int[][] cases = {{0, 0, 50}, {1, 0, 51}, {1, 1, 50}, {99, 98, 51}, {99, 99, 50}, {100, 99, 51}, {100, 0, 51}};
         for (int[] one : cases) {
@@ -194,7 +194,7 @@ final class EdgesOfTerms extends Edges {
     }
 
     private static void house() {
-        of("Terms", "HOUSE: a PLACE (0 at first).");
+        term("HOUSE: a PLACE (0 at first).", 16, 48);
         BiteYears x = with("dish 11111;dish 99999");
         due("house at first", x.count(12), 0);
         x.spoon(0);
@@ -211,7 +211,7 @@ final class EdgesOfTerms extends Edges {
     }
 
     private static void wage() {
-        of("Terms", "WAGE 0 to 50 (1 at first).");
+        term("WAGE 0 to 50 (1 at first).", 4, 7, 48);
         due("wage at first", new BiteYears().count(13), 1);
         due("a dish pays 1 at first", with("dish 11111").dish(0, 10), 1);
         BiteYears x = with("dish 11111;wage 0");
@@ -225,7 +225,7 @@ final class EdgesOfTerms extends Edges {
     }
 
     private static void paid() {
-        of("Terms", "PAID: 0 to 9999 (0 at first).");
+        term("PAID: 0 to 9999 (0 at first).", 11, 48);
         due("paid at first", new BiteYears().count(14), 0);
         due("paid 9998", withPaid(9998).count(14), 9998);
         BiteYears x = withPaid(9998);

@@ -52,7 +52,7 @@ final class EdgesOfTexts extends Edges {
     }
 
     private static void texts() {
-        of("Terms", "THE LIFE is told in texts (at most 12, one behind another):");
+        term("THE LIFE is told in texts (at most 12, one behind another):", 4);
         due("no text", new BiteYears().count(1), 0);
         BiteYears x = withTexts(11);
         due("eleven texts", x.count(1), 11);
@@ -67,7 +67,7 @@ final class EdgesOfTexts extends Edges {
     }
 
     private static void linesOfLife() {
-        of("Terms", "LINE { ; LINE }, at most 14:");
+        term("LINE { ; LINE }, at most 14:", 4);
         due("one line", with("slip 1").count(11), 1);
         due("two lines", with("slip 1;slip 2").count(11), 2);
         due("14 lines", with(lines(13, "slip 1") + ";slip 14").count(11), 14);
@@ -79,7 +79,7 @@ final class EdgesOfTexts extends Edges {
     }
 
     private static void dishLine() {
-        of("Terms", "dish F [ first N at N [ with N ] ] |");
+        term("dish F [ first N at N [ with N ] ] |", 4);
         dueRow("dish F", firstOf(with("dish 12345"), 0), NONE, NONE, NONE);
         dueRow("first and at", firstOf(with("dish 12345 first 7 at 1"), 0), 7, 1, NONE);
         dueRow("first, at and with", firstOf(with("dish 12345 first 7 at 1 with 2"), 0), 7, 1, 2);
@@ -98,7 +98,7 @@ final class EdgesOfTexts extends Edges {
     }
 
     private static void otherLines() {
-        of("Terms", "today N | war N to N | reach N | slip N | house N | wage N.");
+        term("today N | war N to N | reach N | slip N | house N | wage N.", 4);
         BiteYears x = with("today 1;war 2 to 3;reach 4;slip 5;house 6;wage 7");
         dueRow("all of them", counts(x, 3, 9, 10, 8, 11, 12, 13), 1, 2, 3, 4, 5, 6, 7);
         String[] words = {"today", "reach", "slip", "house", "wage"};
@@ -118,7 +118,7 @@ final class EdgesOfTexts extends Edges {
     }
 
     private static void figures() {
-        of("Terms", "F: five figures;");
+        term("F: five figures;", 4);
         due("five", with("dish 00000").count(0), 1);
         wrongLife("dish 0000", 5);
         wrongLife("dish 000000", 5);
@@ -129,7 +129,7 @@ final class EdgesOfTexts extends Edges {
     }
 
     private static void days() {
-        of("Terms", "first, today, war: 0 to 999;");
+        term("first, today, war: 0 to 999;", 4);
         due("first 0", with("dish 11111 first 0 at 1").dish(0, 5), 0);
         due("first 999", with("dish 11111 first 999 at 1").dish(0, 5), 999);
         wrongLife("dish 11111 first 1000 at 1", 17);
@@ -145,7 +145,7 @@ final class EdgesOfTexts extends Edges {
     }
 
     private static void places() {
-        of("Terms", "at, house: a PLACE;");
+        term("at, house: a PLACE;", 4);
         due("at 0", with("dish 11111 first 1 at 0").dish(0, 6), 0);
         due("at 7", with("dish 11111 first 1 at 7").dish(0, 6), 7);
         wrongLife("dish 11111 first 1 at 8", 22);
@@ -157,7 +157,7 @@ final class EdgesOfTexts extends Edges {
     }
 
     private static void company() {
-        of("Terms", "with: COMPANY;");
+        term("with: COMPANY;", 4);
         due("with 0", with("dish 11111 first 1 at 1 with 0").dish(0, 7), 0);
         due("with 7", with("dish 11111 first 1 at 1 with 7").dish(0, 7), 7);
         wrongLife("dish 11111 first 1 at 1 with 8", 29);
@@ -166,7 +166,7 @@ final class EdgesOfTexts extends Edges {
     }
 
     private static void warInRow() {
-        of("Terms", "war: the second not below the first.");
+        term("war: the second not below the first.", 4);
         dueRow("the second above the first", counts(with("war 5 to 6"), 9, 10), 5, 6);
         dueRow("the second as the first", counts(with("war 5 to 5"), 9, 10), 5, 5);
         wrongLife("war 5 to 4", 9);
@@ -175,7 +175,7 @@ final class EdgesOfTexts extends Edges {
     }
 
     private static void todayIsAt() {
-        of("Terms", "By today she is AT it, too.");
+        term("By today she is AT it, too.", 4);
         BiteYears x = with("dish 11111 first 7 at 1");
         x.spoon(0);
         Check.life(x, "wage 1");
@@ -188,7 +188,7 @@ final class EdgesOfTexts extends Edges {
     }
 
     private static void numbersOfLife() {
-        of("Terms", "Numbers are of 1 to 3 digits.");
+        term("Numbers are of 1 to 3 digits.", 4);
         due("1 digit", with("today 7").count(3), 7);
         due("2 digits", with("today 07").count(3), 7);
         due("3 digits", with("today 007").count(3), 7);
@@ -223,7 +223,7 @@ final class EdgesOfTexts extends Edges {
     }
 
     private static void law() {
-        of("Terms", "THE LAW (a text, in place of the one before):");
+        term("THE LAW (a text, in place of the one before):", 5);
         BiteYears x = with("dish 11111");
         due("no law", x.count(2), NONE);
         dueRow("turns and pays without one", new int[] {x.dish(0, 9), x.dish(0, 10)}, 0, 1);
@@ -237,7 +237,7 @@ final class EdgesOfTexts extends Edges {
     }
 
     private static void linesOfLaw() {
-        of("Terms", "LINE { ; LINE }, at most 12:");
+        term("LINE { ; LINE }, at most 12:", 5);
         due("one line", turnsBy("grief 1", 0), 1);
         due("two lines", turnsBy("grief 1;grief 2", 0), 3);
         due("12 lines", turnsBy(lines(11, "grief 1") + ";grief 20", 0), 31);
@@ -250,7 +250,7 @@ final class EdgesOfTexts extends Edges {
     }
 
     private static void lawLine() {
-        of("Terms", "grief N [ if C ] | joy N [ if C ] | pay N [ if C ].");
+        term("grief N [ if C ] | joy N [ if C ] | pay N [ if C ].", 5);
         String[] words = {"grief", "joy", "pay"};
         for (String word : words) {
             int length = word.length();
@@ -270,7 +270,7 @@ final class EdgesOfTexts extends Edges {
     }
 
     private static void orAndAnd() {
-        of("Terms", "C: ALL { or ALL }; ALL: ATOM { and ATOM };");
+        term("C: ALL { or ALL }; ALL: ATOM { and ATOM };", 5);
         for (int bits = 0; bits < 8; bits++) {
             boolean a = (bits & 1) != 0;
             boolean b = (bits & 2) != 0;
@@ -300,7 +300,7 @@ final class EdgesOfTexts extends Edges {
     }
 
     private static void atoms() {
-        of("Terms", "ATOM: not ATOM | ( C ) | new | war | alone | SUM < SUM | SUM > SUM.");
+        term("ATOM: not ATOM | ( C ) | new | war | alone | SUM < SUM | SUM > SUM.", 5);
         dueHolds("4 < 5", true);
         dueHolds("5 < 5", false);
         dueHolds("6 < 5", false);
@@ -337,7 +337,7 @@ final class EdgesOfTexts extends Edges {
     }
 
     private static void sums() {
-        of("Terms", "SUM: PART { + PART }; PART: NUMBER | dish | day | place | company | sorrow | spoons.");
+        term("SUM: PART { + PART }; PART: NUMBER | dish | day | place | company | sorrow | spoons.", 5);
         dueHolds("1 + 1 > 1", true);
         dueHolds("1 + 1 > 2", false);
         dueHolds("3 > 1 + 1", true);
@@ -362,7 +362,7 @@ final class EdgesOfTexts extends Edges {
     }
 
     private static void numbersOfLaw() {
-        of("Terms", "All numbers are of 1 to 3 digits (N 0 to 60).");
+        term("All numbers are of 1 to 3 digits (N 0 to 60).", 5);
         due("N 0", turnsBy("grief 0", 0), 0);
         due("N 60", turnsBy("grief 60", 0), 60);
         due("N of 3 digits", turnsBy("grief 060", 0), 60);
@@ -386,7 +386,7 @@ final class EdgesOfTexts extends Edges {
     }
 
     private static void ofTheDish() {
-        of("Terms", "Of a DISH that is served: dish: its number; new: it is NEW;");
+        term("Of a DISH that is served: dish: its number; new: it is NEW;", 5, 7);
         dueTurns("grief 1 if dish < 1;grief 2 if dish > 2", 1, 0, 0, 2);
         BiteYears x = dishes(12);
         Check.law(x, "grief 1 if dish > 10;grief 2 if dish > 11;grief 4 if dish < 0;grief 8 if dish < 1");
@@ -400,8 +400,8 @@ final class EdgesOfTexts extends Edges {
     }
 
     private static void ofWhatItCallsUp() {
-        of("Terms", "of what it CALLS up: day, place, company (9: nobody), war: its FIRST is in the WAR, alone: with nobody "
-            + "(if it CALLS up nothing: day TODAY, place HOUSE, company 9, neither war nor alone).");
+        term("of what it CALLS up: day, place, company (9: nobody), war: its FIRST is in the WAR, alone: with nobody "
+            + "(if it CALLS up nothing: day TODAY, place HOUSE, company 9, neither war nor alone).", 5, 7);
         // Dish 2 calls up nothing, and today is in the war.
         dueTurns("grief 1 if day < 100;grief 2 if day < 101;grief 4 if day < 240;grief 8 if day < 241;grief 16 if day < 250;grief 32 if day < 251",
             56, 56, 32, 62);
@@ -409,6 +409,8 @@ final class EdgesOfTexts extends Edges {
         dueTurns("grief 1 if company > 2;grief 2 if company > 3;grief 4 if company > 8;grief 8 if company > 9", 1, 1, 7, 7);
         dueTurns("grief 1 if war;grief 2 if not war", 1, 1, 2, 2);
         dueTurns("grief 1 if alone;grief 2 if not alone", 2, 2, 2, 1);
+        BiteYears asked = with(SERVED, "grief 1 if alone;grief 2 if war;grief 4 if new");
+        dueRow("whatever was asked ahead", new int[] {asked.dish(3, 9), asked.dish(2, 9), asked.dish(0, 9), asked.dish(2, 9), asked.dish(3, 9)}, 1, 4, 2, 4, 1);
         BiteYears x = with("dish 11111 first 0 at 0 with 0", "grief 1 if day < 1;grief 2 if place < 1;grief 4 if company < 1;grief 8 if alone;grief 16 if war");
         due("the least of all", x.dish(0, 9), 23);
         x.had(0, 9999, 7, 7);
@@ -418,7 +420,7 @@ final class EdgesOfTexts extends Edges {
     }
 
     private static void turns() {
-        of("Terms", "TURNS by: the sum of N of all grief LINES that hold less that of all joy LINES.");
+        term("TURNS by: the sum of N of all grief LINES that hold less that of all joy LINES.", 5, 7, 31);
         dueTurns("grief 5;joy 7;grief 1 if new;joy 3 if war;pay 60", -5, -4, -1, -2);
         due("the greatest", turnsBy(lines(12, "grief 60"), 0), 720);
         due("the least", turnsBy(lines(12, "joy 60"), 0), -720);
@@ -428,7 +430,7 @@ final class EdgesOfTexts extends Edges {
     }
 
     private static void pays() {
-        of("Terms", "PAYS: WAGE and the sum of N of all pay LINES.");
+        term("PAYS: WAGE and the sum of N of all pay LINES.", 5, 7);
         BiteYears x = with("dish 11111;wage 50", lines(12, "pay 60"));
         due("the greatest", x.dish(0, 10), 770);
         Check.life(x, "wage 0");
@@ -443,7 +445,7 @@ final class EdgesOfTexts extends Edges {
     // ---- how texts are read ----
 
     private static void words() {
-        of("Terms", "Words are as long as a to z go on;");
+        term("Words are as long as a to z go on;", 4, 5, 6);
         due("a word ends at a figure", with("slip9").count(11), 9);
         due("a word ends at a sign", turnsBy("grief 1 if not(new)", 0), 1);
         due("a figure ends at a word", with("dish 11111first7at1with2").dish(0, 7), 2);
@@ -465,7 +467,7 @@ final class EdgesOfTexts extends Edges {
     }
 
     private static void blanks() {
-        of("Terms", "between all there may be blanks (32), also ahead and behind.");
+        term("between all there may be blanks (32), also ahead and behind.", 4, 5, 6);
         due("blanks everywhere in a life", with("  slip  9  ;  war  5  to  6  ").count(9), 5);
         due("no blanks in a life", with("slip9;war5to6").count(10), 6);
         due("blanks everywhere in a law", turnsBy("  grief  1  if  not  (  new  )  and  1  +  1  <  3  ;  joy  5  if  new  ", 0), 1);
@@ -483,7 +485,7 @@ final class EdgesOfTexts extends Edges {
     }
 
     private static void empty() {
-        of("Terms", "A text that is empty, or blanks alone, has no LINE.");
+        term("A text that is empty, or blanks alone, has no LINE.", 4, 5, 6);
         for (String text : new String[] {"", " ", "  ", " ".repeat(400)}) {
             BiteYears x = full();
             int texts = x.count(1);
@@ -499,7 +501,7 @@ final class EdgesOfTexts extends Edges {
     }
 
     private static void deep() {
-        of("Terms", "( and not within one another at most 6 deep.");
+        term("( and not within one another at most 6 deep.", 5, 6);
         dueHolds("not not not not not not 1 < 2", true);
         dueHolds("((((((1 < 2))))))", true);
         dueHolds("not(not(not(1 < 2)))", false);
@@ -516,11 +518,15 @@ final class EdgesOfTexts extends Edges {
         dueHolds("(((((not 2 < 1 and (2 > 1))))))", true);
         wrongLaw("pay 5 if (((((new and not (war))))))", 26);
         dueHolds("((((((1 < 2)))))) and ((((((1 < 2))))))", true);
+        dueHolds("2<1 or 1<2 and(2<1 or 1<2 and(2<1 or 1<2 and(2<1 or 1<2 and(2<1 or 1<2 and(2<1 or 1<2 and(2<1 or 1<2 and 1<2))))))", true);
+        dueHolds("2<1 or 1<2 and(2<1 or 1<2 and(2<1 or 1<2 and(2<1 or 1<2 and(2<1 or 1<2 and(2<1 or 1<2 and(2<1 or 1<2 and 2<1))))))", false);
+        dueHolds("2<1 or 1<2 and not(2<1 or 1<2 and not(2<1 or 1<2 and not(2<1 or 1<2 and 1<2)))", false);
+        dueHolds("2<1 or 1<2 and not(2<1 or 1<2 and not(2<1 or 1<2 and not(2<1 or 1<2 and 2<1)))", true);
         due("each line anew", turnsBy("grief 1 if ((((((1 < 2))))));grief 2 if not not not not not not 1 < 2;grief 4 if (((not not not 2 < 1)))", 0), 7);
     }
 
     private static void firstWrong() {
-        of("Terms", "The first wrong byte: the begin of the first thing that cannot stand there");
+        term("The first wrong byte: the begin of the first thing that cannot stand there", 4, 5, 6);
         wrongLife("slip 101;wage 51", 5);
         wrongLife("slip 1;wage 51;reach 46", 12);
         wrongLife("slip  101", 6);
@@ -538,7 +544,7 @@ final class EdgesOfTexts extends Edges {
     }
 
     private static void moreDigits() {
-        of("Terms", "(a number of more digits,");
+        term("(a number of more digits,", 4, 5, 6);
         due("three", with("slip 001").count(11), 1);
         wrongLife("slip 0001", 5);
         wrongLife("slip 00000000000000000000001", 5);
@@ -548,7 +554,7 @@ final class EdgesOfTexts extends Edges {
     }
 
     private static void outOfBounds() {
-        of("Terms", "or out of its bounds;");
+        term("or out of its bounds;", 4, 5, 6);
         wrongLife("slip 101 ;", 5);
         wrongLife("war 6 to 5 ;", 9);
         wrongLaw("pay 61 if", 4);
@@ -556,7 +562,7 @@ final class EdgesOfTexts extends Edges {
     }
 
     private static void otherFigures() {
-        of("Terms", "figures of another number;");
+        term("figures of another number;", 4, 6);
         wrongLife("dish 1234 ;", 5);
         wrongLife("dish 123456 ;", 5);
         wrongLife("dish 1 2345", 5);
@@ -565,7 +571,7 @@ final class EdgesOfTexts extends Edges {
     }
 
     private static void wordThatIsNone() {
-        of("Terms", "a word that is none;");
+        term("a word that is none;", 4, 5, 6);
         wrongLife("bite 5", 0);
         wrongLife("slip 1; dishes 11111", 8);
         wrongLife("dish 11111 last 5", 11);
@@ -578,10 +584,32 @@ final class EdgesOfTexts extends Edges {
         wrongLaw("pay 5 if old", 9);
         wrongLaw("pay 5 if new xor war", 13);
         wrongLaw("slip 5", 0);
+        String life = "dish 11111 first 7 at 1 with 2;today 8;war 3 to 4;reach 5;slip 6;house 7;wage 8";
+        due("a life of all words", with(life).count(13), 8);
+        spoilWords(life, false);
+        String law = "grief 1 if new and war or alone;joy 2 if not dish<1;pay 3 if day<place;pay 4 if company>sorrow+spoons";
+        due("a law of all words", Check.law(new BiteYears(), law), 4);
+        spoilWords(law, true);
+    }
+
+    /** Each letter in turn is a q, which no word has: the word that it is in is none. */
+    private static void spoilWords(String text, boolean law) {
+        int begin = 0;
+        for (int i = 0; i < text.length(); i++) {
+            char sign = text.charAt(i);
+            boolean letter = sign >= 'a' && sign <= 'z';
+            begin = i > 0 && text.charAt(i - 1) >= 'a' && text.charAt(i - 1) <= 'z' ? begin : i;
+            String spoiled = text.substring(0, i) + "q" + text.substring(i + 1);
+            if (letter && law) {
+                wrongLaw(spoiled, begin);
+            } else if (letter) {
+                wrongLife(spoiled, begin);
+            }
+        }
     }
 
     private static void seventhDeep() {
-        of("Terms", "the ( or not that is a 7th one deep;");
+        term("the ( or not that is a 7th one deep;", 5, 6);
         wrongLaw("pay 5 if ((((((  (new)))))))", 17);
         wrongLaw("pay 5 if ((((((  not new))))))", 17);
         wrongLaw("pay 5 if not not not not not not  (new)", 34);
@@ -592,7 +620,7 @@ final class EdgesOfTexts extends Edges {
     }
 
     private static void tooMany() {
-        of("Terms", "of a LINE, a DISH too many, the first word),");
+        term("of a LINE, a DISH too many, the first word),", 4, 5, 6);
         String slips = lines(14, "slip 1");
         wrongLife(slips + ";slip 1", 98);
         wrongLife(slips + ";   slip 1", 101);
@@ -611,7 +639,7 @@ final class EdgesOfTexts extends Edges {
     }
 
     private static void moreMustCome() {
-        of("Terms", "or the text's length, if more must come.");
+        term("or the text's length, if more must come.", 4, 5, 6);
         wrongLife("dish", 4);
         wrongLife("dish    ", 8);
         wrongLife("slip 1;", 7);
@@ -641,7 +669,7 @@ final class EdgesOfTexts extends Edges {
     }
 
     private static void nothingStays() {
-        of("Terms", "Of a wrong text nothing stays.");
+        term("Of a wrong text nothing stays.", 4, 5);
         wrongLife(Edges::full, "dish 22222;today 5;war 1 to 2;reach 1;slip 1;house 1;wage 1;x", 60);
         wrongLife(Edges::full, "dish 22222 first 1 at 1 with 1;dish 33333;", 42);
         wrongLife(Edges::full, "today 5 5", 8);
@@ -651,5 +679,16 @@ final class EdgesOfTexts extends Edges {
         wrongLaw(Edges::full, "grief 50 if not (new", 20);
         wrongLaw(Edges::full, "x", 0);
         wrongLaw(Edges::full, lines(13, "grief 1"), 96);
+        BiteYears x = with(SERVED);
+        for (String wrong : new String[] {"pay 5 if not (new or (war and (not alone or (", "pay 5 if ((((((", "pay 5 if not not not not not not", lines(12, "grief 9") + ";", "grief 5 if 1 + 2"}) {
+            Check.tape(x, wrong);
+            try {
+                x.law();
+            } catch (IllegalArgumentException e) {
+                due("the wrong one's end", x.fault(), wrong.length());
+            }
+            due("a right law behind it", Check.law(x, "grief 3 if not (not (not (new)));grief 4 if ((((((1 < 2))))));grief 50 if not not not not not not new"), 3);
+            dueRow("what it says", new int[] {x.dish(0, 9), x.dish(1, 9)}, 7, 54);
+        }
     }
 }

@@ -7,7 +7,9 @@ import java.util.Random;
 
 /** Random runs of all calls, with the same answers and exceptions as the model's. */
 public final class ModelTest {
-    private static final int RUNS = 1500;
+    private static final int RUNS = 5000;
+    /** A step takes 26 calls at most, and the last look takes 17: an object is used for at most 512 in all. */
+    private static final int LAST_STEP = 512 - 26 - 17;
     private static final String[] PARTS = {"dish", "day", "place", "company", "sorrow", "spoons", "0", "3", "9", "60", "250", "999"};
     private static final String[] STATES = {"new", "war", "alone"};
 
@@ -42,22 +44,34 @@ public final class ModelTest {
 
     private boolean run(List<Method> face) throws Exception {
         int calls = 0;
-        while (calls < 400) {
+        while (calls < LAST_STEP) {
             Method method = random.nextInt(3) == 0 ? named(face) : face.get(random.nextInt(face.size()));
             calls += putTape(method.getName());
             if (!same(method, arguments(method))) {
                 return false;
             }
-            for (int what = 0; what < 17; what++) {
-                if (x.count(what) != model.count(what)) {
-                    told.append("then count(").append(what).append(") is ").append(x.count(what)).append(", due is ")
-                        .append(model.count(what)).append('\n');
+            for (int i = 0; i < 3; i++) {
+                if (!sameCount(random.nextInt(17))) {
                     return false;
                 }
             }
-            calls++;
+            calls += 4;
+        }
+        for (int what = 0; what < 17; what++) {
+            if (!sameCount(what)) {
+                return false;
+            }
         }
         return true;
+    }
+
+    private boolean sameCount(int what) {
+        int got = x.count(what);
+        if (got == model.count(what)) {
+            return true;
+        }
+        told.append("then count(").append(what).append(") is ").append(got).append(", due is ").append(model.count(what)).append('\n');
+        return false;
     }
 
     /** Acts and texts come more often than the rest. */
@@ -103,7 +117,7 @@ public final class ModelTest {
     }
 
     private int argument(String name, int i) {
-        int dishes = Math.max(1, x.count(0));
+        int dishes = Math.max(1, model.count(0));
         int dish = random.nextInt(20) == 0 ? dishes : random.nextInt(dishes);
         switch (name) {
             case "had":
@@ -150,7 +164,7 @@ public final class ModelTest {
                 text = spoiled(law());
                 break;
             case "menu":
-                text = bytes(random.nextInt(random.nextInt(9) == 0 ? 42 : 8), x.count(0) + (random.nextInt(8) == 0 ? 1 : 0));
+                text = bytes(random.nextInt(random.nextInt(9) == 0 ? 42 : 8), model.count(0) + (random.nextInt(8) == 0 ? 1 : 0));
                 break;
             case "he":
                 text = pairs();
@@ -196,8 +210,8 @@ public final class ModelTest {
 
     private String looks() {
         StringBuilder text = new StringBuilder();
-        int dish = random.nextInt(Math.max(1, x.count(0)));
-        int day = x.count(0) > 0 ? x.dish(dish, 5) : 77;
+        int dish = random.nextInt(Math.max(1, model.count(0)));
+        int day = model.count(0) > 0 ? model.dish(dish, 5) : 77;
         for (int i = random.nextInt(random.nextInt(9) == 0 ? 23 : 3); i > 0; i--) {
             text.append((char) (Math.max(0, day / 10 + random.nextInt(random.nextInt(9) == 0 ? 3 : 2)) & 255));
         }
