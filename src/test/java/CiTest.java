@@ -27,7 +27,7 @@ public final class CiTest {
     }
 
     private static void due(String when, Sandbox box, int ended, String lastLine, String... lines) throws Exception {
-        box.run("main", ".ci/run");
+        box.run("main", "sh", ".ci/run");
         Check.due(".ci/run " + when + " ends with", box.ended, ended);
         Check.due(".ci/run " + when + " prints at the end", box.lastLine(), lastLine);
         for (String line : lines) {
@@ -41,7 +41,7 @@ public final class CiTest {
             box.put("main/src/test/java/Helper.java", "final class Helper { static final int NUMBER = 0; }");
             box.put("main/src/test/java/SecondTest.java", test("SecondTest", 0).replace("(0)", "(Helper.NUMBER)"));
             due("with what tests share", box, 0, "3 passed, 0 failed", "ok: OwnTest", "ok: SecondTest", "ok: SharedRuns");
-            box.run("", "main/.ci/run");
+            box.run("", "sh", "main/.ci/run");
             Check.due(".ci/run called from elsewhere ends with", box.ended, 0);
             Check.due(".ci/run called from elsewhere prints at the end", box.lastLine(), "3 passed, 0 failed");
         }
@@ -70,10 +70,10 @@ public final class CiTest {
     private static void classes() throws Exception {
         try (Sandbox box = project()) {
             box.put(CLASS, RIGHT_CLASS.replace("-1", "none"));
-            box.run("main", ".ci/run");
+            box.run("main", "sh", ".ci/run");
             Check.due(".ci/run where the class does not compile ends with", box.ended, 1);
             box.put(CLASS, RIGHT_CLASS.replace("; }", "; static java.util.List all; }"));
-            box.run("main", ".ci/run");
+            box.run("main", "sh", ".ci/run");
             Check.due(".ci/run where the class compiles with a warning ends with", box.ended, 1);
         }
     }
